@@ -583,7 +583,7 @@ public final class MailFollower {
         }
 
         int placeOf(int mail) {
-            for (int place = 0; hasPlace(place); place++) {
+            for (int place = 0; place < windowSize && place < MOST_WIDTH; place++) {
                 if (windowMails[place] == mail) {
                     return place;
                 }
@@ -638,7 +638,7 @@ public final class MailFollower {
             syncState = server.changes.latest;
             long inBox = server.matching(1 << box, NO_KEYWORDS);
             windowSize = Math.min(width, Long.bitCount(inBox));
-            for (int place = 0; hasPlace(place); place++) {
+            for (int place = 0; place < windowSize && place < MOST_WIDTH; place++) {
                 int mail = server.latestAt(inBox, place);
                 windowMails[place] = mail;
                 windowKeywords[place] = server.keywordsOf(mail);
