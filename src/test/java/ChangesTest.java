@@ -1,10 +1,5 @@
 /** Promises 12 to 19: what changed, and queries. */
-public final class ChangesTest {
-    private static final Class<?> OUT = IndexOutOfBoundsException.class;
-    private static final Class<?> ARGUMENT = IllegalArgumentException.class;
-    private static final Class<?> STATE = IllegalStateException.class;
-    private static final Checks CHECKS = new Checks();
-
+public final class ChangesTest extends Checks {
     public static void main(String[] args) {
         tellsForty();
         sortsChanges();
@@ -14,17 +9,7 @@ public final class ChangesTest {
         queries();
         queryChanges();
         refusesQueries();
-        CHECKS.end();
-    }
-
-    private static void due(String call, Object want, Checks.Call made) {
-        CHECKS.due(call, want, made);
-    }
-
-    private static void flip(MailFollower x, int mail, int times) {
-        for (int i = 0; i < times; i++) {
-            x.flag(mail, 0, (x.keywords(mail) & 1) == 0);
-        }
+        end();
     }
 
     private static void tellsForty() {
@@ -34,10 +19,10 @@ public final class ChangesTest {
         due("p12 negative", ARGUMENT, () -> x.canTell(-1));
         due("p12 least", ARGUMENT, () -> x.canTell(Integer.MIN_VALUE));
         x.add(1, 1, 0);
-        flip(x, 0, 39);
+        flip(x, 0, 0, 39);
         due("p12 40 changes", true, () -> x.canTell(0));
         due("p13 40 changes", 1, () -> x.changed(0, 0));
-        flip(x, 0, 1);
+        flip(x, 0, 0, 1);
         due("p12 41 changes", false, () -> x.canTell(0));
         due("p12 the latest 40", true, () -> x.canTell(1));
         due("p12 the present", true, () -> x.canTell(41));

@@ -1,10 +1,5 @@
 /** Promises 20 to 27: clients. */
-public final class ClientsTest {
-    private static final Class<?> OUT = IndexOutOfBoundsException.class;
-    private static final Class<?> ARGUMENT = IllegalArgumentException.class;
-    private static final Class<?> STATE = IllegalStateException.class;
-    private static final Checks CHECKS = new Checks();
-
+public final class ClientsTest extends Checks {
     public static void main(String[] args) {
         watchWaits();
         flagsOffline();
@@ -18,25 +13,7 @@ public final class ClientsTest {
         cannotTell();
         freshLoads();
         refuses();
-        CHECKS.end();
-    }
-
-    private static void due(String call, Object want, Checks.Call made) {
-        CHECKS.due(call, want, made);
-    }
-
-    private static MailFollower withMails(int mails) {
-        MailFollower x = new MailFollower();
-        for (int i = 0; i < mails; i++) {
-            x.add(i, 1, 0);
-        }
-        return x;
-    }
-
-    private static void flip(MailFollower x, int mail, int keyword, int times) {
-        for (int i = 0; i < times; i++) {
-            x.flag(mail, keyword, (x.keywords(mail) >> keyword & 1) == 0);
-        }
+        end();
     }
 
     private static void watchWaits() {
@@ -276,10 +253,5 @@ public final class ClientsTest {
         due("p25 first", 0, () -> x.windowAt(0, 0));
         due("p26 first", 0, () -> x.known(0, 0));
         due("p23 the other client", 0, () -> x.stateOf(1));
-    }
-
-    private static String watched(MailFollower x, int client, int box, int width) {
-        x.watch(client, box, width);
-        return "nothing";
     }
 }

@@ -1,11 +1,10 @@
 import java.util.Random;
 
 /** Promises 1 to 27: runs of 512 calls, the same ones each time, on the class and on the model. */
-public final class ModelTest {
+public final class ModelTest extends Checks {
     private static final int RUNS = 3000;
     private static final int CALLS = 512;
     private static final int MOST_AT_ONCE = 3;
-    private static final Checks CHECKS = new Checks();
 
     private final Random random;
     private final MailFollower x = new MailFollower();
@@ -32,12 +31,12 @@ public final class ModelTest {
                 test.call();
             }
         }
-        CHECKS.end();
+        end();
     }
 
-    private void same(String call, Checks.Call got, Checks.Call want) {
+    private void same(String call, Call got, Call want) {
         calls++;
-        CHECKS.due(run + ": " + call, Checks.answerOf(want), got);
+        due(run + ": " + call, answerOf(want), got);
     }
 
     /** A number from least to most, seldom one beside them or far away. */

@@ -1,10 +1,5 @@
 /** Promises 1 to 11: a new object and the server. */
-public final class ServerTest {
-    private static final Class<?> OUT = IndexOutOfBoundsException.class;
-    private static final Class<?> ARGUMENT = IllegalArgumentException.class;
-    private static final Class<?> STATE = IllegalStateException.class;
-    private static final Checks CHECKS = new Checks();
-
+public final class ServerTest extends Checks {
     public static void main(String[] args) {
         newObject();
         addTells();
@@ -15,11 +10,7 @@ public final class ServerTest {
         destroyDestroys();
         countsMails();
         sharesFloats();
-        CHECKS.end();
-    }
-
-    private static void due(String call, Object want, Checks.Call made) {
-        CHECKS.due(call, want, made);
+        end();
     }
 
     private static void newObject() {
