@@ -3,6 +3,7 @@ import java.util.List;
 /** "A sync goes like this": each sentence of it, with its boundary cases, in its order. */
 public final class SyncTest extends Checks {
     public static void main(String[] args) {
+        aSyncGoesLikeThis();
         anEmptyList();
         flagsInTheirOrder();
         theMailIsNotThere();
@@ -27,6 +28,27 @@ public final class SyncTest extends Checks {
         freshLoadBehindASync();
         freshLoadAsItBegan();
         end();
+    }
+
+    /** The whole of it: one flag that is replayed, one conflict of each kind, and what the client takes. */
+    private static void aSyncGoesLikeThis() {
+        MailFollower x = withMails(4);
+        x.watch(1, 0, 3);
+        x.sync(1);
+        x.flagOffline(1, 1, 0, true);
+        x.flagOffline(1, 2, 0, true);
+        x.flagOffline(1, 3, 0, true);
+        x.flag(2, 0, true);
+        x.flag(2, 0, false);
+        x.destroy(3);
+        due("p22 two conflicts", 2, () -> x.sync(1));
+        due("p9 the first flag", 1, () -> x.keywords(1));
+        due("p9 the second one is left out", 0, () -> x.keywords(2));
+        due("p23 the state", 8, () -> x.stateOf(1));
+        due("p25 the window", List.of(2, 1, 0), () -> windowMails(x, 1));
+        due("p26 the keywords", List.of(0, 1, 0), () -> knownKeywords(x, 1));
+        due("p27 no fresh load", 0, () -> x.freshLoads(1));
+        due("p21 the list was empty", 1, () -> x.flagOffline(1, 0, 0, true));
     }
 
     /** "The flags of the list are replayed": none. */

@@ -1,7 +1,11 @@
 import java.util.List;
 import java.util.function.Consumer;
 
-/** "What it is" and "Terms": each sentence that names a boundary case, in its order. */
+/**
+ * The 512 calls of "What it is", and each sentence of "Terms" ahead of "A sync goes like this", in their order. Those
+ * about a sync are in {@link SyncTest}, those about exceptions in {@link RefusalsTest}, those about the interface in
+ * {@link FaceTest}.
+ */
 public final class TermsTest extends Checks {
     public static void main(String[] args) {
         fiveHundredAndTwelveCalls();
@@ -27,10 +31,12 @@ public final class TermsTest extends Checks {
         fallingTimesAndNumbers();
         emptyResults();
         clients0And1();
+        aBoxWithAWidth();
         asManyAsTheWidth();
         theWindowHasNoKeyword();
         keepsTheLatestSync();
         tenFlags();
+        eachAMailAKeywordAndWhetherItIsSet();
         end();
     }
 
@@ -466,6 +472,29 @@ public final class TermsTest extends Checks {
         due("terms: client 2", ARGUMENT, () -> x.window(2));
     }
 
+    /** "A client watches a box with a width from 1 to 10". */
+    private static void aBoxWithAWidth() {
+        for (int b = 0; b < 6; b++) {
+            int box = b;
+            MailFollower x = new MailFollower();
+            for (int i = 0; i < 24; i++) {
+                x.add(i, i % 2 == 0 ? 1 << box : 63 - (1 << box), 0);
+            }
+            for (int w = 1; w <= 10; w++) {
+                int width = w;
+                x.watch(1, box, width);
+                x.sync(1);
+                due("terms: the box " + box + " with the width " + width, width, () -> x.window(1));
+                due("terms: its last mail", 24 - 2 * width, () -> x.windowAt(1, width - 1));
+            }
+        }
+        MailFollower x = new MailFollower();
+        due("terms: the box -1", ARGUMENT, () -> watched(x, 1, -1, 5));
+        due("terms: the box 6", ARGUMENT, () -> watched(x, 1, 6, 5));
+        due("terms: a width of 0", ARGUMENT, () -> watched(x, 1, 0, 0));
+        due("terms: a width of 11", ARGUMENT, () -> watched(x, 1, 0, 11));
+    }
+
     /** "its window is the first mails, as many as the width, or all if there are fewer". */
     private static void asManyAsTheWidth() {
         for (int w = 1; w <= 10; w++) {
@@ -533,5 +562,26 @@ public final class TermsTest extends Checks {
             due("terms: again", flags, () -> x.flagOffline(0, 0, 0, true));
         }
         due("terms: an eleventh again", STATE, () -> x.flagOffline(0, 0, 0, true));
+    }
+
+    /** The same sentence: "each a mail, a keyword, and whether it is set". */
+    private static void eachAMailAKeywordAndWhetherItIsSet() {
+        MailFollower x = withMails(5);
+        for (int m = 0; m < 5; m++) {
+            x.flag(m, m % 4, true);
+        }
+        x.sync(0);
+        x.flagOffline(0, 0, 0, false);
+        x.flagOffline(0, 1, 0, true);
+        x.flagOffline(0, 2, 3, true);
+        x.flagOffline(0, 3, 3, false);
+        x.flagOffline(0, 4, 1, true);
+        due("terms: the mails have what they had", List.of(1, 2, 4, 8, 1), () -> keywordsOf(x, 5));
+        x.sync(0);
+        due("terms: each flag on its mail", List.of(0, 3, 12, 0, 3), () -> keywordsOf(x, 5));
+    }
+
+    private static List<Integer> keywordsOf(MailFollower x, int mails) {
+        return numbers(0, mails - 1).stream().map(x::keywords).toList();
     }
 }
